@@ -8,6 +8,7 @@ public final class HowHigh {
     private static final int NO_SUCH = -5, NOT_WITHIN = -7;
     private static final int MISSING = -11, OUTSIDE = -12, UNLIKE = -13, BELOW_NOTHING = -14;
     private static final int FAULT = -100;
+    private static final int HIGHEST_WALL = 99, MOST_BEHIND = 9999, MOST_YEARS = 16;
     private static final String FIRST_TEXT =
         "harm over * behind ; cost 20 + up * wall ; grow year < 9 ;";
 
@@ -55,7 +56,7 @@ public final class HowHigh {
 
     private static int mostOf(int what) {
         switch (what) {
-            case 0: return 16;
+            case 0: return MOST_YEARS;
             case 1: return 60;
             case 2: return 999;
             default: return 1;
@@ -142,7 +143,7 @@ public final class HowHigh {
     }
 
     public int behindThen(int y) {
-        if (!within(y, 0, 16)) {
+        if (!within(y, 0, MOST_YEARS)) {
             return BAD;
         }
         int rich = coast.behind;
@@ -177,7 +178,7 @@ public final class HowHigh {
             return BAD;
         }
         if (kind == Rule.TOLD) {
-            int refused = refusedRow(sheetAt(s), 16, 20);
+            int refused = refusedRow(sheetAt(s), MOST_YEARS, 20);
             if (refused != 0) {
                 return refused;
             }
@@ -287,7 +288,7 @@ public final class HowHigh {
         }
         int wall = coast.wall;
         for (int y = 0; y < coast.years; y++) {
-            wall = Math.min(wall + plan.at(y), 99);
+            wall = Math.min(wall + plan.at(y), HIGHEST_WALL);
             for (int p = 0; p < coast.pathCount; p++) {
                 if (coast.floodsOver(wall, coast.levelAt(p, y)) > m) {
                     return y;
@@ -387,7 +388,7 @@ public final class HowHigh {
     }
 
     public long waits(int n, int part) {
-        if (!within(n, 0, 16) || !isPart(part)) {
+        if (!within(n, 0, MOST_YEARS) || !isPart(part)) {
             return NO;
         }
         return meanBy(planner.leastIf(n, coast.broad) - planner.bestOn(-1).sum, part);
@@ -728,7 +729,7 @@ public final class HowHigh {
     }
 
     private static boolean isAnyYear(int y) {
-        return within(y, 0, 15);
+        return within(y, 0, MOST_YEARS - 1);
     }
 
     private boolean isYear(int y) {
@@ -736,11 +737,11 @@ public final class HowHigh {
     }
 
     private static boolean isWall(int h) {
-        return within(h, 0, 99);
+        return within(h, 0, HIGHEST_WALL);
     }
 
     private static boolean isRich(int rich) {
-        return within(rich, 0, 9999);
+        return within(rich, 0, MOST_BEHIND);
     }
 
     private static boolean isMany(int m) {
@@ -981,7 +982,7 @@ public final class HowHigh {
             if (law == null) {
                 return rich;
             }
-            return Math.max(0, Math.min(9999, rich + law.growthBy(rich, y)));
+            return Math.max(0, Math.min(MOST_BEHIND, rich + law.growthBy(rich, y)));
         }
     }
 
@@ -1424,7 +1425,7 @@ public final class HowHigh {
         int more;
         final int step;
         final int near;
-        private final int[] told = new int[16];
+        private final int[] told = new int[MOST_YEARS];
 
         Rule(int kind, int more, int rest) {
             this.kind = kind;
@@ -1476,10 +1477,10 @@ public final class HowHigh {
 
     /** What came of a rule on a path, year by year. */
     private static final class Course {
-        private final int[] walls = new int[16];
-        private final int[] raises = new int[16];
-        private final int[] behinds = new int[16];
-        private final boolean[] lefts = new boolean[16];
+        private final int[] walls = new int[MOST_YEARS];
+        private final int[] raises = new int[MOST_YEARS];
+        private final int[] behinds = new int[MOST_YEARS];
+        private final boolean[] lefts = new boolean[MOST_YEARS];
         long paid;
         private long harmed;
         private int wall;
@@ -1492,7 +1493,7 @@ public final class HowHigh {
             wall = coast.wall;
             behind = coast.behind;
             left = false;
-            for (int y = 0; y < coast.years && y < 16; y++) {
+            for (int y = 0; y < coast.years && y < MOST_YEARS; y++) {
                 int level = coast.levelAt(p, y);
                 behinds[y] = behind;
                 raises[y] = 0;
@@ -1502,7 +1503,7 @@ public final class HowHigh {
                     left = true;
                 }
                 if (!left) {
-                    raises[y] = Math.min(rule.raiseOf(coast, level, wall, y), 99 - wall);
+                    raises[y] = Math.min(rule.raiseOf(coast, level, wall, y), HIGHEST_WALL - wall);
                     live(coast, level, y, raises[y]);
                 }
                 walls[y] = wall;
@@ -1522,7 +1523,7 @@ public final class HowHigh {
         }
 
         int told(int y, int what) {
-            if (y < 0 || y >= 16) {
+            if (y < 0 || y >= MOST_YEARS) {
                 return 0;
             }
             switch (what) {
@@ -1535,7 +1536,7 @@ public final class HowHigh {
 
         /** What one storm harms in a year; -1, if there is no flood. */
         int harmOfStorm(Coast coast, int p, int y, int storm) {
-            if (y < 0 || y >= 16 || lefts[y]) {
+            if (y < 0 || y >= MOST_YEARS || lefts[y]) {
                 return -1;
             }
             return coast.harmOfOne(storm, coast.levelAt(p, y), walls[y], y, behinds[y]);
@@ -1544,7 +1545,7 @@ public final class HowHigh {
 
     /** By how much the wall is raised in each year, and what that comes to. */
     private static final class Plan {
-        private final int[] raises = new int[16];
+        private final int[] raises = new int[MOST_YEARS];
         long sum;
         // The coast's changes when it was made; it holds as long as there were no more.
         int madeAt = -1;
@@ -1571,7 +1572,7 @@ public final class HowHigh {
 
     /** Finds the plan that comes to least, from the last year back to the first. */
     private static final class Planner {
-        private static final int STEEPEST = 3, MOST_YEARS = 16, HIGHEST = 99;
+        private static final int STEEPEST = 3;
         private static final int REACH = STEEPEST * MOST_YEARS + 1;
 
         private final Coast coast;
@@ -1579,7 +1580,10 @@ public final class HowHigh {
         private final Plan[] plans = new Plan[Coast.MOST_PATHS + 1];
         private final Plan asked = new Plan();
         private final int[] behinds = new int[MOST_YEARS + 1];
-        private final long[] harms = new long[REACH];
+        // Of each path by years and by how far the wall has been raised by their end; at which changes.
+        private final long[][] harms = new long[Coast.MOST_PATHS][MOST_YEARS * REACH];
+        private final int[] harmsMadeAt = new int[Coast.MOST_PATHS];
+        private final long[] weighed = new long[REACH];
         // By years and by how far the wall has been raised: what is still to come, and the raising for that.
         private final long[][] least = new long[MOST_YEARS + 1][REACH];
         private final int[][] raises = new int[MOST_YEARS + 1][REACH];
@@ -1592,6 +1596,7 @@ public final class HowHigh {
             for (int i = 0; i < plans.length; i++) {
                 plans[i] = new Plan();
             }
+            Arrays.fill(harmsMadeAt, -1);
         }
 
         /** The best plan on a path, of all paths for -1; in sum by weights then. */
@@ -1624,6 +1629,11 @@ public final class HowHigh {
             for (int y = 0; y < years; y++) {
                 behinds[y + 1] = coast.grown(behinds[y], y);
             }
+            for (int q = 0; q < coast.pathCount; q++) {
+                if (p < 0 || q == p) {
+                    fillHarms(q, years);
+                }
+            }
             Arrays.fill(least[years], 0);
             for (int y = years - 1; y >= 0; y--) {
                 weighHarms(p, y);
@@ -1641,17 +1651,30 @@ public final class HowHigh {
 
         /** How far the wall can have been raised as a year begins. */
         private int furthest(int y) {
-            return Math.min(STEEPEST * y, HIGHEST - coast.wall);
+            return Math.min(STEEPEST * y, HIGHEST_WALL - coast.wall);
         }
 
-        /** What each wall that there can be in a year's end lets through in that year. */
+        private void fillHarms(int p, int years) {
+            if (p < 0 || p >= harms.length || harmsMadeAt[p] == coast.changes) {
+                return;
+            }
+            for (int y = 0; y < years && y < MOST_YEARS; y++) {
+                int level = coast.levelAt(p, y);
+                for (int d = 0; d <= furthest(y + 1) && d < REACH; d++) {
+                    harms[p][y * REACH + d] = coast.harmAt(level, coast.wall + d, y, behinds[y]);
+                }
+            }
+            harmsMadeAt[p] = coast.changes;
+        }
+
+        /** What each wall that there can be in a year's end lets through, on the path or by weights. */
         private void weighHarms(int p, int y) {
             for (int d = 0; d <= furthest(y + 1) && d < REACH; d++) {
-                harms[d] = 0;
-                for (int q = 0; q < coast.pathCount; q++) {
+                weighed[d] = 0;
+                for (int q = 0; q < coast.pathCount && q < harms.length; q++) {
                     if (p < 0 || q == p) {
                         long weight = p < 0 ? coast.weightOf(1 << q) : 1;
-                        harms[d] += weight * coast.harmAt(coast.levelAt(q, y), coast.wall + d, y, behinds[y]);
+                        weighed[d] += weight * harms[q][y * REACH + d];
                     }
                 }
             }
@@ -1664,7 +1687,7 @@ public final class HowHigh {
             long sum = 0;
             for (int up = 0; up <= most && d + up < REACH; up++) {
                 long paid = scale * coast.costAt(up, coast.wall + d, y, behinds[y], broad);
-                long now = paid + harms[d + up] + least[y + 1][d + up];
+                long now = paid + weighed[d + up] + least[y + 1][d + up];
                 if (raise < 0 || now < sum) {
                     raise = up;
                     sum = now;
@@ -1677,7 +1700,7 @@ public final class HowHigh {
 
     /** Towns on one bay, whose walls push the water to each other. */
     private static final class Bay {
-        private static final int MOST_TOWNS = 3, MUCH_HIGHER = 5, MOST_BEHIND = 9999;
+        private static final int MOST_TOWNS = 3, MUCH_HIGHER = 5;
 
         private final Coast coast;
         private final int[] walls = new int[MOST_TOWNS];
@@ -1766,7 +1789,7 @@ public final class HowHigh {
         /** What one wall for some towns costs. */
         int oneWall(int set, int most) {
             int up = 0;
-            int lowest = Planner.HIGHEST;
+            int lowest = HIGHEST_WALL;
             int rich = 0;
             for (int t = 0; t < townCount && t < MOST_TOWNS; t++) {
                 if (isIn(t, set)) {
