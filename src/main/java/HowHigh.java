@@ -1119,22 +1119,18 @@ public final class HowHigh {
             behind = 0;
             signCount = 0;
             step();
-            if (!isPart(HARM)) {
+            if (!stood(HARM) || !isOr(0) || !stood(';')) {
                 return null;
             }
             int costFrom = signCount;
-            if (!isPart(COST)) {
+            if (!stood(COST) || !isOr(0) || !stood(';')) {
                 return null;
             }
             int growFrom = signCount;
-            if (!isPart(GROW) || token != END) {
+            if (!stood(GROW) || !isOr(0) || !stood(';') || token != END) {
                 return null;
             }
             return new Text(Arrays.copyOf(signs, signCount), costFrom, growFrom);
-        }
-
-        private boolean isPart(int key) {
-            return stood(key) && isOr(0) && stood(';');
         }
 
         // The ones below read what their name says, as far as it can stand; open is how many are open around it.
