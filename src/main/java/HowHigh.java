@@ -1582,7 +1582,7 @@ public final class HowHigh {
         private final long[] weighed = new long[REACH];
         // By years and by how far the wall has been raised: what is still to come, and the raising for that.
         private final long[][] least = new long[MOST_YEARS + 1][REACH];
-        private final int[][] raises = new int[MOST_YEARS + 1][REACH];
+        private final int[][] raises = new int[MOST_YEARS][REACH];
         private int idle;
         private int broad;
         private long scale;

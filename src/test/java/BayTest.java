@@ -236,10 +236,17 @@ public final class BayTest {
         due.is("too few", x.join(0, 0, 0, 50), HowHigh.BAD);
         RulesTest.sheet(x, 0, 0, 0, 0, 0);
         due.is("too many", x.join(0, 0, 0, 50), HowHigh.BAD);
+        x.path(1, 12, 0, 0);
+        x.path(1, 30, 10, 0);
+        RulesTest.sheet(x, 0, 0, 0, 0);
+        due.is("the path and the year are its own", x.joint(7, 2, 5, 50), 20 + 20 * 10);
+        RulesTest.sheet(x, 0, 120, 95, 0);
+        due.is("more water", x.join(0, 1, 0, 50), 7);
+        due.is("less water", x.join(0, 0, 0, 50), 3);
         due.is("missing", x.join(3, 0, 0, 50), -11);
         due.is("sheet", x.join(4, 0, 0, 50), HowHigh.BAD);
         due.is("sheet", x.join(-1, 0, 0, 50), HowHigh.BAD);
-        due.is("path ahead of missing", x.join(3, 1, 0, 50), HowHigh.BAD);
+        due.is("path ahead of missing", x.join(3, 3, 0, 50), HowHigh.BAD);
         due.is("path", x.join(3, -1, 0, 50), HowHigh.BAD);
         due.is("year", x.join(3, 0, 8, 50), HowHigh.BAD);
         due.is("year", x.join(3, 0, -1, 50), HowHigh.BAD);

@@ -7,6 +7,7 @@ public final class BestTest {
         oneRaise();
         likeOnes();
         highestWall();
+        furthestRaise();
         noLongerHolding();
         knowing();
         waiting();
@@ -136,6 +137,28 @@ public final class BestTest {
             again += x.planned(-1, y);
         }
         due.is("99 at most", again, 99);
+    }
+
+    private static void furthestRaise() {
+        HowHigh x = new HowHigh();
+        x.set(0, 16);
+        x.set(1, 0);
+        x.path(1, 30, 40, 40);
+        x.storm(40, 1000);
+        // One step of over is worth 50 in each year to come, and one of the wall costs 1.
+        LawTest.law(x, "harm over * 50 ; cost up ; grow 0 ;");
+        long sum = 48000;
+        for (int y = 0; y < 16; y++) {
+            due.is("raised by 3 in " + y, x.planned(0, y), 3);
+            sum += 1000L * 50 * (x.level(0, y) + 40 - 3 * (y + 1));
+        }
+        part("all the way", x, 0, sum / 1000, 1);
+        part("all the way", x, -1, sum / 1000, 1);
+        x.set(1, 51);
+        due.is("just to 99", x.planned(0, 15), 3);
+        x.set(1, 52);
+        due.is("one less in the last year", x.planned(0, 15), 2);
+        due.is("not before", x.planned(0, 14), 3);
     }
 
     /** What a plan was may not stay when something changes. */

@@ -231,6 +231,11 @@ public final class HostTest {
         }
         due.is("nothing", x.taken(2, 6), -11);
         due.is("nothing", x.taken(7, 0), -11);
+        for (int t = 2; t < 8; t++) {
+            x.street(t, 10 * t);
+            due.is("street " + t, x.taken(t, 6), 10 * t);
+        }
+        due.is("no rule", x.taken(7, 0), -13);
         due.is("no rule there", x.taken(8, 0), -11);
     }
 }

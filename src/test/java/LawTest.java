@@ -6,6 +6,7 @@ public final class LawTest {
         feeding();
         texts();
         faults();
+        wordsElsewhere();
         depth();
         values();
         forcing();
@@ -134,6 +135,42 @@ public final class LawTest {
         fault("harm or 1;", 5);
         fault("harm < 1;", 5);
         fault("harm + 1;", 5);
+        fault("harm overz;", 5);
+        fault("harm zover;", 5);
+        fault("harm aover;", 5);
+        fault("harm 1;cost 2;grow 3;5", 21);
+        fault("harm 1;cost 2;grow 3;?", 21);
+        fault("harm 1;cost 2;grow 3; up", 22);
+        fault("harm 1;cost (2;grow 3;", 14);
+        fault("harm 1;cost 2;grow (3;", 21);
+    }
+
+    /** Each word where a part begins, where a one is due, and behind a one. */
+    private static void wordsElsewhere() {
+        String[] words = {
+            "over", "behind", "wall", "level", "year", "up", "harm", "cost", "grow", "or", "and", "not", "x", "7",
+        };
+        for (int i = 0; i < words.length; i++) {
+            String word = words[i];
+            if (i != 6) {
+                fault(word + " 1;cost 1;grow 1;", 0);
+            }
+            if (i != 7) {
+                fault("harm 1;" + word + " 1;grow 1;", 7);
+            }
+            if (i != 8) {
+                fault("harm 1;cost 1;" + word + " 1;", 14);
+            }
+            if (i >= 6 && i != 11 && i != 13) {
+                fault("harm " + word + " 1;", 5);
+            }
+            if (i >= 6 && i != 13) {
+                fault("harm 1 * " + word + " 1;", 9);
+            }
+            if (i != 9 && i != 10) {
+                fault("harm 1 " + word + " 1;", 7);
+            }
+        }
     }
 
     private static void depth() {
@@ -155,6 +192,10 @@ public final class LawTest {
         due.is("a - ends", read(new HowHigh(), "harm -1*(((((2)))))" + rest), 1);
         fault("harm not 1<(((((2)))))" + rest, 15);
         fault("harm -(((((1)))))" + rest, 10);
+        due.is("five in each part", read(new HowHigh(), "harm (((((1)))));cost -----1;grow not (not (not 1));"), 1);
+        due.is("five in each part", read(new HowHigh(), "harm 1;cost (((((1)))));grow (((((1)))));"), 1);
+        fault("harm 1;cost ((((((1))))));grow 1;", 17);
+        fault("harm 1;cost 1;grow ((((((1))))));", 24);
     }
 
     /** What an E is, by what a wall costs: year 4, wall 7, behind 30, raised by 3, broad. */
