@@ -136,7 +136,7 @@ public final class HowHigh {
     }
 
     public int cost(int up, int h, int y, int rich) {
-        if (!isWall(up) || !isWall(h) || !isAnyYear(y) || !isRich(rich)) {
+        if (!within(up, 0, 99) || !isWall(h) || !isAnyYear(y) || !isRich(rich)) {
             return BAD;
         }
         return coast.costAt(up, h, y, rich, coast.broad);
@@ -1459,7 +1459,7 @@ public final class HowHigh {
             switch (kind) {
                 case LAW: return coast.needAt(h, level, more);
                 case STEP: return stepIn(y);
-                case WAIT: return level + near >= h ? stepIn(y) : 0;
+                case WAIT:
                 case BACK: return level + near >= h ? stepIn(y) : 0;
                 case TOLD: return toldFor(y);
                 default: return 0;

@@ -6,14 +6,15 @@ import java.util.Arrays;
 import java.util.Comparator;
 import java.util.Random;
 
-/** Runs of 512 calls of all kinds with numbers of all kinds: none throws, refusals change nothing, little room is taken. */
+/** Runs of 512 calls with numbers of all kinds: none throws, refusals change nothing, little room is taken. */
 public final class CallsTest {
     private static final Due due = new Due("CallsTest");
     private static final int[] EDGES = {
         -1, -2, 0, 1, 2, 3, 4, 5, 6, 7, 8, 15, 16, 17, 19, 20, 21, 40, 41, 60, 61, 99, 100, 999, 1000, 1001, 9999, 10000,
         99999, 100000, 999999, 1000000, Integer.MAX_VALUE, Integer.MIN_VALUE, Integer.MAX_VALUE - 1,
     };
-    private static final String SIGNS = "harm cost grow over behind wall level year up or and not 0123456789 ( ) ; + - * < = ; ( ";
+    private static final String SIGNS =
+        "harm cost grow over behind wall level year up or and not 0123456789 ( ) ; + - * < = ; ( ";
     private static final Method[] METHODS = methods();
 
     private final Random random;
@@ -96,7 +97,8 @@ public final class CallsTest {
             all.append(x.flood(p, 5, 20)).append(' ');
         }
         for (int i = 0; i < 8; i++) {
-            all.append(x.ruleTold(i, 0)).append(' ').append(x.ruleTold(i, 19)).append(' ').append(x.taken(i, 6)).append(' ');
+            all.append(x.ruleTold(i, 0)).append(' ').append(x.ruleTold(i, 19)).append(' ');
+            all.append(x.taken(i, 6)).append(' ');
         }
         return all.append(x.cost(1, 7, 3, 5)).append(' ').append(x.behindThen(16)).toString();
     }
