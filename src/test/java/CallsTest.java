@@ -6,7 +6,7 @@ import java.util.Arrays;
 import java.util.Comparator;
 import java.util.Random;
 
-/** Runs of 512 calls with numbers of all kinds: none throws, refusals change nothing, little room is taken. */
+/** Runs of up to 512 calls with numbers of all kinds: none throws, refusals change nothing, little room is taken. */
 public final class CallsTest {
     private static final Due due = new Due("CallsTest");
     private static final int[] EDGES = {
@@ -17,16 +17,27 @@ public final class CallsTest {
         "harm cost grow over behind wall level year up or and not 0123456789 ( ) ; + - * < = ; ( ";
     private static final Method[] METHODS = methods();
 
-    private final Random random;
-    private final HowHigh x = new HowHigh();
+    private static final int MOST_CALLS = 512;
 
-    private CallsTest(long seed) {
+    private final Random random;
+    // A twin gets all calls but those that x refused, another one gets all of them.
+    private final HowHigh x;
+    private final HowHigh spared;
+    private final HowHigh again;
+
+    private CallsTest(long seed, Scene.Made made) {
         random = new Random(seed);
+        x = Scene.of(made);
+        spared = Scene.of(made);
+        again = Scene.of(made);
     }
 
     public static void main(String[] args) throws IllegalAccessException {
-        for (int seed = 0; seed < 1200; seed++) {
-            new CallsTest(seed).run(512);
+        for (int seed = 0; seed < 600; seed++) {
+            new CallsTest(seed, Scene::nothing).run(MOST_CALLS);
+            new CallsTest(seed, Scene::some).runAndLook(100);
+            new CallsTest(seed, Scene::full).runAndLook(60);
+            new CallsTest(seed, Scene::nothing).runAndLook(200);
         }
         room();
         due.end();
@@ -49,15 +60,20 @@ public final class CallsTest {
             }
             String call = m.getName() + Arrays.toString(args);
             try {
-                String before = state();
                 long got = ((Number) m.invoke(x, args)).longValue();
-                if (isRefusal(m.getName(), got)) {
-                    due.holds(call + " is refused and changes nothing", before.equals(state()));
+                due.is(call + " once more", ((Number) m.invoke(again, args)).longValue(), got);
+                if (!isRefusal(m.getName(), got)) {
+                    due.is(call + " without the refused ones", ((Number) m.invoke(spared, args)).longValue(), got);
                 }
             } catch (InvocationTargetException e) {
                 due.holds(call + " threw " + e.getCause(), false);
             }
         }
+    }
+
+    private void runAndLook(int calls) throws IllegalAccessException {
+        run(calls);
+        due.holds("refusals change nothing", Look.at(x).equals(Look.at(spared)));
     }
 
     private int number() {
@@ -86,24 +102,7 @@ public final class CallsTest {
         return got == HowHigh.NO || got < 0 && got > -15;
     }
 
-    /** What can be seen without a change. */
-    private String state() {
-        StringBuilder all = new StringBuilder();
-        for (int what = 0; what < 12; what++) {
-            all.append(x.count(what)).append(' ');
-        }
-        for (int p = 0; p < 4; p++) {
-            all.append(x.level(p, 15)).append(' ').append(x.think(p, 0, x.level(p, 0), 1)).append(' ');
-            all.append(x.flood(p, 5, 20)).append(' ');
-        }
-        for (int i = 0; i < 8; i++) {
-            all.append(x.ruleTold(i, 0)).append(' ').append(x.ruleTold(i, 19)).append(' ');
-            all.append(x.taken(i, 6)).append(' ');
-        }
-        return all.append(x.cost(1, 7, 3, 5)).append(' ').append(x.behindThen(16)).toString();
-    }
-
-    /** Dear calls, 512 of them, take no room to speak of. */
+    /** Dear calls, as many as there may be, take no room to speak of. */
     private static void room() {
         ThreadMXBean bean = (ThreadMXBean) ManagementFactory.getThreadMXBean();
         long before = bean.getThreadAllocatedBytes(Thread.currentThread().getId());
@@ -126,7 +125,7 @@ public final class CallsTest {
         x.town(20, 10);
         long start = bean.getThreadAllocatedBytes(Thread.currentThread().getId());
         long sum = 0;
-        for (int i = 0; i < 64; i++) {
+        for (int i = 0; i < 46; i++) {
             x.weigh(0, 1 + i);
             sum += x.sure(0) + x.price(0) + x.waits(i % 16, 0) + x.broadWorth(0);
             sum += x.rests(0, 0, 1) + x.sheet(0, 2, 40) + x.drawn(0, i, 1) + x.mean(0, 0) + x.text();

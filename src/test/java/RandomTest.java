@@ -1,12 +1,18 @@
 import java.math.BigInteger;
+import java.util.ArrayList;
+import java.util.List;
 import java.util.Random;
 
-/** Coasts by numbers drawn (the seeds are told, so that each run is the same), held against the model. */
+/**
+ * Coasts by numbers drawn (the seeds are told, so that each run is the same), held against the model. As an object is
+ * used for 512 calls at most, what makes the coast is kept, and another object made by it ahead of each row of questions.
+ */
 public final class RandomTest {
     private static final Due due = new Due("RandomTest");
 
     private final Random random;
-    private final HowHigh x = new HowHigh();
+    private HowHigh x = new HowHigh();
+    private final List<Twins.Call> made = new ArrayList<>();
     private final Model model = new Model();
 
     private RandomTest(long seed) {
@@ -19,6 +25,7 @@ public final class RandomTest {
             one.makeCoast(5);
             one.askAll();
             one.change();
+            one.change();
             one.askAll();
         }
         for (int seed = 0; seed < 8; seed++) {
@@ -29,6 +36,19 @@ public final class RandomTest {
         due.end();
     }
 
+    /** What makes the coast; it is made alike from then on. */
+    private long make(Twins.Call call) {
+        made.add(call);
+        return call.of(x);
+    }
+
+    private void another() {
+        x = new HowHigh();
+        for (Twins.Call call : made) {
+            call.of(x);
+        }
+    }
+
     private int upTo(int most) {
         return random.nextInt(most + 1);
     }
@@ -37,12 +57,13 @@ public final class RandomTest {
         change(mostYears);
         for (int i = upTo(4); i > 0; i--) {
             int[] p = {1 + upTo(98), upTo(30), upTo(40), upTo(15), upTo(40)};
-            due.is("path", x.path(p[0], p[1], p[2], p[3] * 100 + p[4]), model.paths.size());
+            int[] told = p.clone();
+            due.is("path", make(o -> o.path(told[0], told[1], told[2], told[3] * 100 + told[4])), model.paths.size());
             model.paths.add(p);
         }
         for (int i = upTo(6); i > 0; i--) {
             int[] s = {upTo(40), 1 + upTo(160)};
-            due.is("storm", x.storm(s[0], s[1]), model.storms.size());
+            due.is("storm", make(o -> o.storm(s[0], s[1])), model.storms.size());
             model.storms.add(s);
         }
         for (int i = upTo(8); i > 0; i--) {
@@ -50,12 +71,12 @@ public final class RandomTest {
         }
         for (int i = upTo(8); i > 0; i--) {
             int[] t = {upTo(60), upTo(999)};
-            due.is("street", x.street(t[0], t[1]), model.streets.size());
+            due.is("street", make(o -> o.street(t[0], t[1])), model.streets.size());
             model.streets.add(t);
         }
         for (int i = upTo(3); i > 0; i--) {
             int[] t = {upTo(60), upTo(999)};
-            due.is("town", x.town(t[0], t[1]), model.towns.size());
+            due.is("town", make(o -> o.town(t[0], t[1])), model.towns.size());
             model.towns.add(t);
         }
         makeLaw();
@@ -66,12 +87,14 @@ public final class RandomTest {
         int more = random.nextBoolean() ? upTo(4) : upTo(1000);
         int[] rule = {kind, more, upTo(9), upTo(20)};
         int[] tells = new int[16];
-        x.sheet(1, upTo(2), 16);
+        int sort = upTo(2);
+        make(o -> o.sheet(1, sort, 16));
         for (int y = 0; y < 16 && kind == 4; y++) {
+            int at = y;
             tells[y] = upTo(20);
-            x.cell(1, y, tells[y]);
+            make(o -> o.cell(1, at, tells[at]));
         }
-        due.is("rule", x.rule(kind, more, rule[2] * 100 + rule[3], 1), model.rules.size());
+        due.is("rule", make(o -> o.rule(kind, more, rule[2] * 100 + rule[3], 1)), model.rules.size());
         model.rules.add(rule);
         model.told.add(tells);
     }
@@ -86,7 +109,18 @@ public final class RandomTest {
         if (all.length() > 160 || x.count(9) == 6) {
             return;
         }
-        LawTest.law(x, all);
+        int t = x.count(9);
+        for (int i = 0; i < all.length(); i += 8) {
+            int n = Math.min(8, all.length() - i);
+            long w = 0;
+            for (int k = 0; k < n; k++) {
+                w = w << 8 | all.charAt(i + k);
+            }
+            long fed = w;
+            make(o -> o.feed(fed, n));
+        }
+        due.is("text " + all, make(HowHigh::text), t);
+        make(o -> o.force(t));
         model.harm = parts[0].part();
         model.cost = parts[1].part();
         model.grow = parts[2].part();
@@ -97,30 +131,60 @@ public final class RandomTest {
         model.wall = upTo(60);
         model.behind = upTo(999);
         model.broad = upTo(1);
-        x.set(0, model.years);
-        x.set(1, model.wall);
-        x.set(2, model.behind);
-        x.set(3, model.broad);
+        int[] now = {model.years, model.wall, model.behind, model.broad};
+        for (int i = 0; i < 4; i++) {
+            int what = i;
+            make(o -> o.set(what, now[what]));
+        }
     }
 
+    /** Some of all that can change is changed, behind a question for which plans are made that may not stay then. */
     private void change() {
-        change(5);
+        for (int p = -1; p < model.paths.size(); p++) {
+            int q = p;
+            make(o -> o.best(q, 0));
+        }
+        switch (upTo(3)) {
+            case 0 -> change(5);
+            case 1 -> changeOne();
+            case 2 -> makeLaw();
+            default -> changePaths();
+        }
+        int push = upTo(9);
+        due.is("push", make(o -> o.push(push)), model.push);
+        model.push = push;
+    }
+
+    private void changeOne() {
+        int what = upTo(3);
+        int[] most = {4, 60, 999, 1};
+        int now = upTo(most[what]) + (what == 0 ? 1 : 0);
+        make(o -> o.set(what, now));
+        switch (what) {
+            case 0 -> model.years = now;
+            case 1 -> model.wall = now;
+            case 2 -> model.behind = now;
+            default -> model.broad = now;
+        }
+    }
+
+    private void changePaths() {
         for (int p = 0; p < model.paths.size(); p++) {
             int[] path = model.paths.get(p);
             int weight = 1 + upTo(98);
-            due.is("weigh", x.weigh(p, weight), path[0]);
+            int q = p;
+            due.is("weigh", make(o -> o.weigh(q, weight)), path[0]);
             path[0] = weight;
         }
-        int push = upTo(9);
-        due.is("push", x.push(push), model.push);
-        model.push = push;
-        makeLaw();
     }
 
     private void askAll() {
         for (int p = 0; p < model.paths.size(); p++) {
+            another();
             askPath(p);
+            another();
             askBay(p);
+            another();
             for (int t = 0; t < model.streets.size(); t++) {
                 int m = upTo(1) * upTo(1000);
                 due.is("when", x.when(t, p, m), model.when(t, p, m));
@@ -135,9 +199,12 @@ public final class RandomTest {
             due.is("cost", x.cost(a[0], a[1], a[2], a[3]), model.cost(a[0], a[1], a[2], a[3], model.broad));
         }
         for (int r = 0; r < model.rules.size(); r++) {
+            another();
             askRule(r);
         }
+        another();
         askBest();
+        another();
         askSure();
         askLaws();
         judge();
