@@ -14,6 +14,7 @@ public final class EdgesLawTest {
         p17blanks();
         p17everyByte();
         p17longTokens();
+        p17letters();
         p17digits();
         p17parts();
         p17notBelow();
@@ -198,6 +199,31 @@ public final class EdgesLawTest {
         due.is("17 andor", read("harm 1 andor 1;"), -107);
         due.is("17 a name of a letter too much is a FAULT where it begins", read("harm 1 * yearo;"), -109);
         due.is("17 a word of 155 letters", read("harm " + "o".repeat(155)), -105);
+    }
+
+    /** A WORD that is neither KEY nor NAME: each one with a letter less, more or another one. */
+    private static void p17letters() {
+        String[][] words = {
+            {"harm", "", " 1;cost 2;grow 3;"}, {"cost", "harm 1;", " 2;grow 3;"}, {"grow", "harm 1;cost 2;", " 3;"},
+            {"or", "harm 1 ", " 1;cost 2;grow 3;"}, {"and", "harm 1 ", " 1;cost 2;grow 3;"},
+            {"not", "harm ", " 1;cost 2;grow 3;"}, {"over", "harm ", ";cost 2;grow 3;"},
+            {"behind", "harm ", ";cost 2;grow 3;"}, {"wall", "harm ", ";cost 2;grow 3;"},
+            {"level", "harm ", ";cost 2;grow 3;"}, {"year", "harm ", ";cost 2;grow 3;"}, {"up", "harm ", ";cost 2;grow 3;"},
+        };
+        for (String[] word : words) {
+            due.is("17 " + word[0], read(word[1] + word[0] + word[2]), 1);
+            int fault = -100 - word[1].length();
+            for (int i = 0; i < word[0].length(); i++) {
+                String ahead = word[1] + word[0].substring(0, i);
+                String behind = word[0].substring(i + 1) + word[2];
+                char letter = word[0].charAt(i);
+                due.is("17 " + word[0] + " with another letter at " + i, read(ahead + "q" + behind), fault);
+                due.is("17 " + word[0] + " with the next letter at " + i, read(ahead + (char) (letter + 1) + behind), fault);
+                due.is("17 " + word[0] + " with a letter more at " + i, read(ahead + letter + letter + behind), fault);
+                due.is("17 " + word[0] + " with a letter less at " + i, read(ahead + behind), fault);
+                due.is("17 " + word[0] + " with a great letter at " + i, read(ahead + (char) (letter - 32) + behind), fault);
+            }
+        }
     }
 
     /** NUMBERS (as many digits as stand there; more than 4 are too long). */

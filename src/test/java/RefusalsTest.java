@@ -187,6 +187,7 @@ public final class RefusalsTest {
         row("feed", FULL, with(97, 1), BAD, -4).isRefused(-4);
         row("feed", FULL, with(97, 0), BAD, -4).isRefused(BAD);
         row("feed", FULL, with(97, 9), BAD, -4).isRefused(BAD);
+        row("text", FULL, with(), -4).isRefused(-4);
         row("force", NEW, with(0), BAD).in(0, 0, 0, BAD).holds();
         row("force", SOME, with(1), BAD).in(0, 0, 1, BAD).holds();
         row("force", FULL, with(1), BAD).in(0, 0, 5, BAD).holds();
@@ -289,6 +290,11 @@ public final class RefusalsTest {
             row("copy", SOME, with(3, 0, s, 0, -1), BAD).isRefused(BAD);
             row("stormsBy", SOME, with(s, 2, 0, 1), BAD).isRefused(BAD);
             row("stormsBy", SOME, with(s, 2, 99, 0), BAD).isRefused(BAD);
+        }
+        for (int s : new int[] {1, 2}) {
+            row("rule", SOME, with(4, 0, 0, s), BAD).isRefused(BAD);
+            row("join", SOME, with(s - 1, 0, 0, 0), BAD).isRefused(BAD);
+            row("judge", SOME, with(2 * s - 2, 0), BAD).isRefused(BAD);
         }
         row("rule", SOME, with(4, 0, 0, 3), BAD).isRefused(-11);
         row("rule", FULL, with(4, 0, 0, 3), BAD).isRefused(-11);
