@@ -28,22 +28,26 @@ public final class RunsTest {
     // Mosts that hang on what there is.
     private static final int YEAR = -1000, PATH = -1001, RULE = -1002, STREET = -1003, TOWN = -1004, TOWNS = -1005;
     private static final List<Kind> KINDS = List.of(
-        new Kind("set", 12, 0, 3, 0, 999), new Kind("count", 4, 0, 11), new Kind("path", 6, 1, 99, 0, 30, 0, 40, 0, 1540),
-        new Kind("weigh", 6, 0, PATH, 1, 99), new Kind("storm", 8, 0, 40, 1, 300), new Kind("level", 4, 0, PATH, 0, 15),
+        new Kind("set", 12, 0, 3, 0, 999), new Kind("count", 4, 0, 11),
+        new Kind("path", 6, 1, 99, 0, 30, 0, 40, 0, 1540), new Kind("weigh", 6, 0, PATH, 1, 99),
+        new Kind("storm", 8, 0, 40, 1, 300), new Kind("level", 4, 0, PATH, 0, 15),
         new Kind("flood", 4, 0, PATH, 0, 15, 0, 99), new Kind("harm", 6, 0, PATH, 0, 15, 0, 99, 0, 9999),
-        new Kind("cost", 6, 0, 99, 0, 99, 0, 15, 0, 9999), new Kind("behindThen", 4, 0, 16), new Kind("seen", 4, 0, 15, 0, 30),
-        new Kind("think", 4, 0, PATH, 0, 15, 0, 30, 0, 1), new Kind("rule", 10, 0, 5, 0, 1000, 0, 920, 0, 3),
-        new Kind("ruleTold", 6, 0, RULE, 0, 19), new Kind("text", 1), new Kind("force", 8, 0, 5),
-        new Kind("total", 8, 0, RULE, 0, PATH), new Kind("spent", 6, 0, RULE, 0, PATH), new Kind("mean", 6, 0, RULE, 0, 1),
+        new Kind("cost", 6, 0, 99, 0, 99, 0, 15, 0, 9999), new Kind("behindThen", 4, 0, 16),
+        new Kind("seen", 4, 0, 15, 0, 30), new Kind("think", 4, 0, PATH, 0, 15, 0, 30, 0, 1),
+        new Kind("rule", 10, 0, 5, 0, 1000, 0, 920, 0, 3), new Kind("ruleTold", 6, 0, RULE, 0, 19),
+        new Kind("text", 1), new Kind("force", 8, 0, 5), new Kind("total", 8, 0, RULE, 0, PATH),
+        new Kind("spent", 6, 0, RULE, 0, PATH), new Kind("mean", 6, 0, RULE, 0, 1),
         new Kind("row", 12, 0, RULE, 0, PATH, 0, YEAR, 0, 3), new Kind("judge", 8, 0, 3, 0, 1000),
         new Kind("drawn", 10, 0, RULE, 0, 99999, 0, 1), new Kind("best", 6, -1, PATH, 0, 1),
         new Kind("planned", 8, -1, PATH, 0, YEAR), new Kind("know", 3, 0, 1), new Kind("waits", 3, 0, 16, 0, 1),
         new Kind("broadWorth", 3, 0, 1), new Kind("decided", 3), new Kind("regret", 4, 0, RULE, 0, PATH),
         new Kind("worst", 3, 0, RULE), new Kind("sure", 2, 0, 1), new Kind("thousand", 3, 0, 1000, 0, 1),
-        new Kind("price", 3, 0, 5000), new Kind("street", 8, 0, 60, 0, 999), new Kind("when", 6, 0, STREET, 0, PATH, 0, 1000),
-        new Kind("away", 6, 0, PATH, 0, YEAR, 0, 1000, 0, 1), new Kind("town", 4, 0, 60, 0, 999), new Kind("push", 5, 0, 9),
-        new Kind("pays", 10, 0, TOWN, 0, PATH, 0, YEAR, 1, 30, 0, TOWNS), new Kind("rests", 6, 0, PATH, 0, YEAR, 1, 30),
-        new Kind("together", 6, 0, PATH, 0, YEAR, 1, 30), new Kind("joint", 6, 1, TOWNS, 0, PATH, 0, YEAR, 0, 1000),
+        new Kind("price", 3, 0, 5000), new Kind("street", 8, 0, 60, 0, 999),
+        new Kind("when", 6, 0, STREET, 0, PATH, 0, 1000), new Kind("away", 6, 0, PATH, 0, YEAR, 0, 1000, 0, 1),
+        new Kind("town", 4, 0, 60, 0, 999), new Kind("push", 5, 0, 9),
+        new Kind("pays", 10, 0, TOWN, 0, PATH, 0, YEAR, 1, 30, 0, TOWNS),
+        new Kind("rests", 6, 0, PATH, 0, YEAR, 1, 30), new Kind("together", 6, 0, PATH, 0, YEAR, 1, 30),
+        new Kind("joint", 6, 1, TOWNS, 0, PATH, 0, YEAR, 0, 1000),
         new Kind("join", 10, 0, 3, 0, PATH, 0, YEAR, 0, 1000), new Kind("image", 3), new Kind("back", 3),
         new Kind("sheet", 8, 0, 3, 0, 2, 0, 40), new Kind("cell", 12, 0, 3, 0, 39, 0, 20),
         new Kind("copy", 10, 0, 3, 0, 15, 0, 3, 0, 15, 0, 15), new Kind("stormsBy", 8, 0, 3, 0, 2, 0, 20, 0, 3),
@@ -285,8 +289,8 @@ public final class RunsTest {
 
     /** A text of tokens drawn, of which most may stand where they do. */
     private String tokens() {
-        String[] all = {"harm", "cost", "grow", "over", "behind", "up", "or", "and", "not", "(", "(", "(", ")", ")", ";", "+",
-            "-", "-", "*", "<", "=", "1", "23", "4567", "89012", "\n", " "};
+        String[] all = {"harm", "cost", "grow", "over", "behind", "up", "or", "and", "not", "(", "(", "(", ")", ")", ";",
+            "+", "-", "-", "*", "<", "=", "1", "23", "4567", "89012", "\n", " "};
         StringBuilder text = new StringBuilder("harm ");
         for (int i = 0; i < 40 && text.length() < 150; i++) {
             String token = all[random.nextInt(all.length)];
