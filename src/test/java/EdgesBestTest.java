@@ -17,6 +17,7 @@ public final class EdgesBestTest {
         p28waits();
         p29broad();
         p30decided();
+        p30onEachAlone();
         p31regret();
         p32worst();
         p33sure();
@@ -317,6 +318,27 @@ public final class EdgesBestTest {
         w.path(1, 0, 0, 1510);
         due.is("30 never on one", w.decided(), -1);
         due.is("30 no path", new HowHigh().decided(), -1);
+    }
+
+    /** The BEST on each PATH: that of all may never raise, or later than each of them. */
+    private static void p30onEachAlone() {
+        HowHigh x = new HowHigh();
+        x.set(0, 1);
+        x.set(1, 19);
+        x.path(1, 0, 0, 0);
+        x.path(1, 2, 0, 0);
+        x.storm(20, 100);
+        LawTest.law(x, "harm 105+level*105;cost up*10;grow 0;");
+        plan("by 1, the path known", x, 0, 1);
+        plan("by 3, the other path known", x, 1, 3);
+        plan("none of all", x, -1, 0);
+        due.is("30 on each, though not of all", x.decided(), 0);
+        x.set(0, 2);
+        LawTest.law(x, "harm 105+level*105;cost up*(10-9*year);grow 0;");
+        plan("by 1, the path known", x, 0, 1, 0);
+        plan("by 3, the other path known", x, 1, 3, 0);
+        plan("later of all", x, -1, 0, 3);
+        due.is("30 on each, though later of all", x.decided(), 0);
     }
 
     private static void p31regret() {

@@ -20,7 +20,9 @@ public final class EdgesLawTest {
         p17notBelow();
         p17open();
         p17openEnds();
+        p17openBesideSigns();
         p17ways();
+        p17deep();
         p17wraps();
         p17truth();
         p18force();
@@ -330,12 +332,49 @@ public final class EdgesLawTest {
         due.is("17 none is open in the next part", read("harm " + five + ";cost " + five + ";grow " + five + ";"), 1);
     }
 
+    /** What is open is open for each side of each sign, however often the sign stands. */
+    private static void p17openBesideSigns() {
+        String rest = ";cost 2;grow 3;";
+        for (String sign : new String[] {" or ", " and ", "<", "=", "+", "-", "*"}) {
+            for (int around = 0; around <= 5; around++) {
+                String ahead = "harm " + "(".repeat(around);
+                String behind = ")".repeat(around) + rest;
+                String in = "(".repeat(5 - around);
+                String one = in + "1" + ")".repeat(5 - around);
+                due.is("17 behind" + sign + around, read(ahead + "1" + sign + one + behind), 1);
+                due.is("17 ahead of" + sign + around, read(ahead + one + sign + "1" + behind), 1);
+                String right = ahead + "1" + sign + in;
+                due.is("17 a sixth behind" + sign + around, read(right + "(1"), -100 - right.length());
+                due.is("17 a sixth - behind" + sign + around, read(right + "-1"), -100 - right.length());
+                due.is("17 a sixth ahead of" + sign + around, read(ahead + in + "(1"), -100 - 10);
+                if (!sign.equals("<") && !sign.equals("=")) {
+                    String third = ahead + "1" + sign + "1" + sign + "1" + sign + in;
+                    due.is("17 behind more" + sign + around, read(third + "1" + ")".repeat(5 - around) + behind), 1);
+                    due.is("17 a sixth behind more" + sign + around, read(third + "(1"), -100 - third.length());
+                }
+            }
+        }
+    }
+
     /** An E by what a wall costs: year 4, wall 7, behind 30, raised by 3, broad. */
     private static void value(String call, String e, int want) {
         HowHigh x = new HowHigh();
         x.set(3, 1);
         x.force(LawTest.read(x, "harm 0;cost " + e + ";grow 0;"));
         due.is(call + ": " + e, x.cost(3, 7, 4, 30), want);
+    }
+
+    /** As much as can be is still to be worked off, while what stands innermost is. */
+    private static void p17deep() {
+        value("17 in five (", "1+2*(1+2*(1+2*(1+2*(1+2*(1+2*3)))))", 255);
+        String ahead = "0 or 1 and 0<0+1*(".repeat(5);
+        value("17 all signs in five (", ahead + "up)))))", 1);
+        value("17 all signs in five (", ahead + "0)))))", 0);
+        value("17 all signs in five (", ahead + "1 or 1 and 1<1+1*up)))))", 1);
+        value("17 all signs in five (", ahead + "0 or 1 and 9<3+2*up)))))", 0);
+        value("17 three - of a (", "100-2*---(up+2*3)", 118);
+        value("17 four - of a (", "100-2*----(up+2*3)", 82);
+        value("17 not in five not", "5+2*(not not not not 7)", 7);
     }
 
     /** What binds closer, and from where on. */
